@@ -20,6 +20,7 @@ final class BookTest {
         Due.due("group below", x.group(0, 0, 0, 1), 3);
         Due.due("group in 20 above", x.group(0, 0, 20, 0), 1001);
         Due.due("group in 20 below", x.group(0, 0, 20, 1), 3);
+        Due.due("group in 40 above", x.group(0, 0, 40, 0), 1601);
         Due.due("hidden above", x.group(0, 1, 0, 0), -9);
         Due.due("hidden below", x.group(0, 1, 0, 1), 1);
         x.least(2);

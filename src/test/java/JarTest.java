@@ -217,22 +217,21 @@ final class JarTest {
         Due.due("worst of equals", x.worst(0), 0);
         x.pour(0, false);
         Due.due("worst of equals, not poured", x.worst(0), 0);
-        int seed = firstSeedWithOtherWorst(x);
-        Due.due("worst of seed " + seed, x.worst(1), worstByMeans(x, 1));
-        Due.due("a seed with another worst month than the first", x.worst(1) == 0 ? 1 : 0, 0);
+        everyMonthIsWorstOnce(x);
         Due.due("worst(2)", x.worst(2), -1);
         Due.due("worst(-1)", x.worst(-1), -1);
         Due.refused(x, 2, 0, 0, 0, 0);
     }
 
-    private static int firstSeedWithOtherWorst(GlassJar x) {
-        int seed = 0;
-        do {
-            seed++;
+    private static void everyMonthIsWorstOnce(GlassJar x) {
+        int months = 0;
+        for (int seed = 1; seed <= 100; seed++) {
             x.jar(1, seed, 2000, 365, 366);
-            Due.due("worst of seed " + seed, x.worst(1), worstByMeans(x, 1));
-        } while (x.worst(1) == 0 && seed < 20);
-        return seed;
+            int worst = worstByMeans(x, 1);
+            Due.due("worst of seed " + seed, x.worst(1), worst);
+            months |= 1 << worst;
+        }
+        Due.due("the months of these seeds", months, 4095);
     }
 
     private static int worstByMeans(GlassJar x, int jar) {
@@ -257,6 +256,9 @@ final class JarTest {
         Due.due("turned(0) of a new object", new GlassJar().turned(0), 1109);
         x.jar(1, 7, 2000, 365, 366);
         Due.due("turned(1)", x.turned(1), turnedByPairs(x, 1));
+        Due.due("turned(1) again", x.turned(1), turnedByPairs(x, 1));
+        x.jar(1, 8, 40, 100, 9);
+        Due.due("turned(1) of another", x.turned(1), turnedByPairs(x, 1));
         Due.due("turned(2)", x.turned(2), -1);
         Due.due("turned(-1)", x.turned(-1), -1);
         Due.refused(x, 2, 0, 0, 0, 0);
