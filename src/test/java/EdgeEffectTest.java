@@ -12,6 +12,15 @@ final class EdgeEffectTest {
         return Run.plain().men("s0,100", "s300,100");
     }
 
+    /** 58 men with number 1, one with number 2, and last one with number 301. */
+    private static Run sixtyMen(String text, String man58, String man59) {
+        Run x = Run.plain();
+        for (int man = 0; man < 58; man++) {
+            x.man(text);
+        }
+        return x.man(man58).man(man59);
+    }
+
     private static void refusedJars(Run x, String name, long... a) {
         for (int jar : new int[] {-1, 2, MIN, MAX}) {
             a[0] = jar;
@@ -86,6 +95,11 @@ final class EdgeEffectTest {
         ordered("does");
     }
 
+    static void p18_of60Men() {
+        sixtyMen("n0,9999", "n1,9998", "n300,0").fraction(589940, 59, "does", 0, 0).due(195, "cut", 1)
+                .fraction(5000, 1, "does", 0, 40).due(1, "cut", 301).noFraction("does", 0, 0);
+    }
+
     static void p18_greatestAndLeastDoes() {
         Run.plain().men("f0,9999", "n300,0").due(80, "law", 3, 999).fraction(10998, 1, "does", 0, 0);
         Run.plain().men("s0,0", "n300,9999").due(150, "law", 1, 999).due(0, "law", 4, 99)
@@ -112,6 +126,11 @@ final class EdgeEffectTest {
     static void p19_termsAreLeastAndTheLowerNumberAbove0() {
         Run.plain().men("s0,1", "s1,1", "n2,1", "n3,1", "n300,1").fraction(1, 2, "share", 0);
         Run.plain().men("n0,1", "a300,1", "a301,1", "n302,1", "n303,1").fraction(-1, 2, "share", 0);
+    }
+
+    static void p19_of60Men() {
+        sixtyMen("s0,1", "n1,1", "n300,1").fraction(58, 59, "share", 0).due(195, "cut", 1).fraction(1, 1, "share", 0);
+        sixtyMen("n0,1", "n1,1", "a300,1").fraction(-1, 1, "share", 0).due(195, "cut", 1).fraction(-1, 2, "share", 0);
     }
 
     static void p19_safeMenServedAndAwayMenDidNot() {
@@ -164,6 +183,12 @@ final class EdgeEffectTest {
                 .fraction(-150, 1, "serving", 0, 0);
     }
 
+    static void p20_of60Men() {
+        // DOES: 58 times 9849 and 9939, by 59, less 1; SHARE: 58 by 59.
+        sixtyMen("s0,9999", "n1,9939", "n300,1").fraction(581122, 59, "does", 0, 0)
+                .fraction(290561, 29, "serving", 0, 0);
+    }
+
     static void p20_years0And40AreAnsweredAndOthersRefused() {
         refusedYears(twoMen().due(5, "law", 2, 1).fraction(-150, 1, "serving", 0, 0)
                 .fraction(-90, 1, "serving", 0, 40), "serving");
@@ -197,6 +222,12 @@ final class EdgeEffectTest {
     static void p21_aLuckyMansNumberIsByTheJarThatIsTold() {
         Run x = Run.plain().due(1, "pour", 1, 0).man("l0,1").noFraction("truly", 0, 0).fraction(-150, 1, "truly", 1, 0);
         x.due(1, "pour", 0, 0).fraction(-150, 1, "truly", 0, 0);
+    }
+
+    static void p21_of60Men() {
+        sixtyMen("s0,1", "l1,9999", "s300,7").fraction(-150, 1, "truly", 0, 0);
+        sixtyMen("n0,1", "n1,1", "s300,7").fraction(-150, 1, "truly", 0, 0);
+        sixtyMen("n0,1", "a1,1", "l300,7").noFraction("truly", 0, 0);
     }
 
     static void p21_nobodyNeedsToBeCalled() {
@@ -237,6 +268,11 @@ final class EdgeEffectTest {
     static void p22_aHalfAboveWhatIsToldIsMore() {
         Run.plain().men("n0,1", "n1,2", "n300,0").due(-9, "faded", 0, 1).due(0, "faded", 0, 2);
         Run.plain().men("n0,0", "n300,1", "n301,2").due(-9, "faded", 0, 1).due(0, "faded", 0, 2);
+    }
+
+    static void p22_of60Men() {
+        sixtyMen("n0,9999", "n1,9998", "n300,0").due(-9, "faded", 0, 9998).due(0, "faded", 0, 9999);
+        sixtyMen("s0,100", "n1,100", "n300,100").due(20, "faded", 0, 0).due(19, "faded", 0, 7);
     }
 
     static void p22_year0MayBeTheFirst() {

@@ -409,8 +409,9 @@ final class EdgeJarTest {
         jar(2, 0, 0, 1).due(0, "worst", 0);
     }
 
-    static void p10_months0And11MayBeWorst() {
+    static void p10_months0And1And10And11MayBeWorst() {
         jar(7, 2000, 365, 366).due(0, "worst", 0);
+        jar(1, 0, 0, 366).due(1, "worst", 0).due(1, "pour", 0, 0).due(10, "worst", 0);
         jar(1, 2000, 365, 366).due(11, "worst", 0);
     }
 

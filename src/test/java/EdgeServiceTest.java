@@ -22,6 +22,14 @@ final class EdgeServiceTest {
         return Run.plain().men("s1,1000", "a1,1000", "n1,1000", "f1,1000", "c1,1000", "l1,1000", "l0,1000");
     }
 
+    private static Run sixtyMen() {
+        Run x = Run.plain();
+        for (int man = 0; man < 59; man++) {
+            x.man("n0,0");
+        }
+        return x.man("a1,160");
+    }
+
     private static void wages(Run x, int year, int... due) {
         for (int man = 0; man < due.length; man++) {
             x.due(due[man], "wage", 0, man, year);
@@ -118,6 +126,11 @@ final class EdgeServiceTest {
         }
     }
 
+    static void p15_of60MenTheLastIsAManAndNoneBehindHim() {
+        sixtyMen().due(1, "called", 0, 59).refused(-1, "called", 0, 60);
+        new Run().refused(-1, "called", 0, 0);
+    }
+
     static void p15_jarsAndMenWhoAreNotAreRefused() {
         Run x = refusedJars(Run.plain().man("s0,1"), "called", 0, 0);
         x.due(1, "called", 0, 0).due(1, "called", 1, 0).refused(-1, "called", 0, -1).refused(-1, "called", 0, 1);
@@ -154,6 +167,11 @@ final class EdgeServiceTest {
                 .due(3, "served", 0, 2).due(0, "served", 1, 2).due(1, "served", 0, 3).due(0, "served", 1, 3);
     }
 
+    static void p16_of60MenTheLastIsAManAndNoneBehindHim() {
+        sixtyMen().due(1, "served", 0, 59).due(0, "served", 0, 58).refused(-1, "served", 0, 60);
+        new Run().refused(-1, "served", 0, 0);
+    }
+
     static void p16_jarsAndMenWhoAreNotAreRefused() {
         Run x = refusedJars(Run.plain().man("s0,1"), "served", 0, 0);
         x.due(1, "served", 0, 0).due(1, "served", 1, 0).refused(-1, "served", 0, -1).refused(-1, "served", 0, 1);
@@ -172,6 +190,11 @@ final class EdgeServiceTest {
         Run x = refusedJars(Run.plain().man("n0,5"), "wage", 0, 0, 0);
         x.due(5, "wage", 1, 0, 0).refused(-1, "wage", 0, -1, 0).refused(-1, "wage", 0, 1, 0);
         x.refused(-1, "wage", 0, MIN, 0).refused(-1, "wage", 1, MAX, 0);
+    }
+
+    static void p17_of60MenTheLastIsAManAndNoneBehindHim() {
+        sixtyMen().due(10, "wage", 0, 59, 0).due(0, "wage", 0, 58, 0).refused(-1, "wage", 0, 60, 0);
+        new Run().refused(-1, "wage", 0, 0, 0);
     }
 
     static void p17_nobodyIsToldBeforeTheYear() {

@@ -34,9 +34,13 @@ final class FaceTest {
         Due.due("constructors", constructors.length, 1);
         Due.due("its parameters", constructors[0].getParameterCount(), 0);
         Due.due("public constructor", constructors[0].getModifiers(), Modifier.PUBLIC);
-        for (Class<?> inside : GlassJar.class.getDeclaredClasses()) {
+        sizes(GlassJar.class);
+        Class<?>[] insides = GlassJar.class.getDeclaredClasses();
+        Due.due("classes, some twelve at most: " + insides.length, insides.length < 12 ? 1 : 0, 1);
+        for (Class<?> inside : insides) {
             Due.due("static " + inside.getName(), Modifier.isStatic(inside.getModifiers()) ? 1 : 0, 1);
             Due.due("not public " + inside.getName(), Modifier.isPublic(inside.getModifiers()) ? 1 : 0, 0);
+            sizes(inside);
         }
         signs();
         Due.end("FaceTest");
@@ -57,8 +61,31 @@ final class FaceTest {
         for (Method method : GlassJar.class.getDeclaredMethods()) {
             if (!Modifier.isPublic(method.getModifiers())) {
                 isPrivate(method);
-                Due.due("a name of its own: " + method, publicNames.contains(method.getName()) ? 1 : 0, 0);
+                hasItsOwnName(method, publicNames);
             }
+        }
+        for (Class<?> inside : GlassJar.class.getDeclaredClasses()) {
+            for (Method method : inside.getDeclaredMethods()) {
+                hasItsOwnName(method, publicNames);
+            }
+        }
+    }
+
+    private static void hasItsOwnName(Method method, Set<String> publicNames) {
+        Due.due("a name of its own: " + method, publicNames.contains(method.getName()) ? 1 : 0, 0);
+    }
+
+    /** Fields of an object, parameters of a method, static fields that could change. */
+    private static void sizes(Class<?> type) {
+        int fields = 0;
+        for (Field field : type.getDeclaredFields()) {
+            boolean isStatic = Modifier.isStatic(field.getModifiers());
+            fields += isStatic ? 0 : 1;
+            Due.due("final " + field, !isStatic || Modifier.isFinal(field.getModifiers()) ? 1 : 0, 1);
+        }
+        Due.due("some twenty fields: " + type, fields <= 20 ? 1 : 0, 1);
+        for (Method method : type.getDeclaredMethods()) {
+            Due.due("seven parameters: " + method, method.getParameterCount() <= 7 ? 1 : 0, 1);
         }
     }
 
