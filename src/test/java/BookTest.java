@@ -69,13 +69,12 @@ final class BookTest {
 
     // Promise 25
     private static void shown() {
-        int[] starts = {0, 31, 60, 91, 121, 152, 182, 213, 244, 274, 305, 335, 366};
         for (int month = 0; month < 12; month++) {
             GlassJar x = new GlassJar();
             x.least(2);
-            Due.man(x, "s" + starts[month] + ",1");
+            Due.man(x, "s" + Due.MONTH_STARTS[month] + ",1");
             Due.due("one man of month " + month, x.shown(), 0);
-            Due.man(x, "s" + (starts[month + 1] - 1) + ",1");
+            Due.man(x, "s" + (Due.MONTH_STARTS[month + 1] - 1) + ",1");
             Due.due("two men of month " + month, x.shown(), 1 << month);
         }
         GlassJar x = new GlassJar();

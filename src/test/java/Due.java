@@ -6,6 +6,8 @@ final class Due {
     static final long BELOW = 4000000000000000004L;
     static final long ROOM = 4000000000000000006L;
 
+    static final int[] MONTH_STARTS = {0, 31, 60, 91, 121, 152, 182, 213, 244, 274, 305, 335, 366};
+
     private static int wrong = 0;
     private static int asked = 0;
     private static String test = "";

@@ -2,24 +2,9 @@
 final class EdgeBookTest {
     private static final int MIN = Integer.MIN_VALUE;
     private static final int MAX = Integer.MAX_VALUE;
-    private static final int[] MONTH_STARTS = {0, 31, 60, 91, 121, 152, 182, 213, 244, 274, 305, 335, 366};
 
     public static void main(String[] args) throws Exception {
         Cases.run(EdgeBookTest.class);
-    }
-
-    private static Run manyMen(Run x, int many, String text) {
-        for (int man = 0; man < many; man++) {
-            x.man(text);
-        }
-        return x;
-    }
-
-    private static void refusedJars(Run x, String name, long... a) {
-        for (int jar : new int[] {-1, 2, MIN, MAX}) {
-            a[0] = jar;
-            x.refused(-1, name, a);
-        }
     }
 
     // "GROUPS by MONTHS of birthdays: mean WAGE of a MONTH in a YEAR; hidden (-9 by 1), if there are fewer than
@@ -36,14 +21,14 @@ final class EdgeBookTest {
     }
 
     static void p23_sixtyMenAreShownByLeast60And59Hidden() {
-        Run x = manyMen(Run.plain().due(3, "least", 60), 59, "n0,9999").fraction(-9, 1, "group", 0, 0, 0);
+        Run x = Run.plain().due(3, "least", 60).same(59, "n0,9999").fraction(-9, 1, "group", 0, 0, 0);
         x.man("n30,9998").fraction(599939, 60, "group", 0, 0, 0).fraction(623939, 60, "group", 0, 0, 40);
     }
 
     static void p23_aMonthHoldsItsFirstAndLastDay() {
         for (int month = 0; month < 12; month++) {
             Run x = Run.plain().due(3, "least", 1);
-            x.man("n" + MONTH_STARTS[month] + ",1").man("n" + (MONTH_STARTS[month + 1] - 1) + ",4");
+            x.man("n" + Due.MONTH_STARTS[month] + ",1").man("n" + (Due.MONTH_STARTS[month + 1] - 1) + ",4");
             x.fraction(5, 2, "group", 0, month, 0);
             x.fraction(-9, 1, "group", 0, (month + 1) % 12, 0).fraction(-9, 1, "group", 0, (month + 11) % 12, 0);
         }
@@ -80,10 +65,8 @@ final class EdgeBookTest {
 
     static void p23_jarsAndPartsThatAreNotAreRefused() {
         Run x = Run.plain().due(3, "least", 1).man("n0,3").fraction(3, 1, "group", 1, 0, 0);
-        refusedJars(x, "group", 0, 0, 0, 0);
-        for (int part : new int[] {-1, 2, MIN, MAX}) {
-            x.refused(-2, "group", 0, 0, 0, part);
-        }
+        x.refusedJars("group", 0, 0, 0, 0);
+        x.refusedParts("group", 0, 0, 0, 0);
     }
 
     static void p23_refusalsAreToldInTheirOrder() {
@@ -115,8 +98,8 @@ final class EdgeBookTest {
 
     static void p25_eachMonthHasItsBitFromItsFirstToItsLastDay() {
         for (int month = 0; month < 12; month++) {
-            Run x = new Run().due(3, "least", 1).man("n" + MONTH_STARTS[month] + ",1").due(1 << month, "shown");
-            x.man("n" + (MONTH_STARTS[month + 1] - 1) + ",1").due(1 << month, "shown");
+            Run x = new Run().due(3, "least", 1).man("n" + Due.MONTH_STARTS[month] + ",1").due(1 << month, "shown");
+            x.man("n" + (Due.MONTH_STARTS[month + 1] - 1) + ",1").due(1 << month, "shown");
             x.due(1, "least", 2).due(1 << month, "shown").due(2, "least", 3).due(0, "shown");
         }
     }
@@ -124,13 +107,13 @@ final class EdgeBookTest {
     static void p25_allMonthsMayBeShown() {
         Run x = new Run().due(3, "least", 5);
         for (int man = 0; man < 60; man++) {
-            x.man("n" + (MONTH_STARTS[man % 12] + man % 29) + ",1");
+            x.man("n" + (Due.MONTH_STARTS[man % 12] + man % 29) + ",1");
         }
         x.due(4095, "shown").due(5, "least", 6).due(0, "shown");
     }
 
     static void p25_sixtyMenAreShownByLeast60And59Hidden() {
-        manyMen(new Run().due(3, "least", 60), 59, "n365,1").due(0, "shown").man("n335,1").due(2048, "shown");
+        new Run().due(3, "least", 60).same(59, "n365,1").due(0, "shown").man("n335,1").due(2048, "shown");
     }
 
     // "MOVED: how many men are CALLED by just one of both JARS."
@@ -155,7 +138,7 @@ final class EdgeBookTest {
     }
 
     static void p26_sixtyMenMayHaveMoved() {
-        manyMen(Run.plain().due(1, "pour", 1, 0), 60, "s0,1").due(60, "moved").due(1, "pour", 0, 0).due(0, "moved");
+        Run.plain().due(1, "pour", 1, 0).same(60, "s0,1").due(60, "moved").due(1, "pour", 0, 0).due(0, "moved");
     }
 
     // "CUTS: the least CUT (0 .. 366) by which told many men are CALLED, or more; -9 none."
@@ -188,7 +171,7 @@ final class EdgeBookTest {
     }
 
     static void p27_sixtyMenMayBeToldAndNotMore() {
-        Run x = manyMen(Run.plain(), 59, "s0,1").due(-9, "cuts", 0, 60).man("s300,1").due(301, "cuts", 0, 60);
+        Run x = Run.plain().same(59, "s0,1").due(-9, "cuts", 0, 60).man("s300,1").due(301, "cuts", 0, 60);
         x.due(1, "cuts", 0, 59).refused(-6, "cuts", 0, 61).refused(-6, "cuts", 0, MAX);
     }
 
@@ -197,7 +180,7 @@ final class EdgeBookTest {
     }
 
     static void p27_jarsThatAreNotAreRefused() {
-        refusedJars(Run.plain().man("s0,1").due(1, "cuts", 1, 1), "cuts", 0, 1);
+        Run.plain().man("s0,1").due(1, "cuts", 1, 1).refusedJars("cuts", 0, 1);
     }
 
     static void p27_noJarIsToldBeforeTheNumber() {

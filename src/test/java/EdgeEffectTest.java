@@ -14,25 +14,7 @@ final class EdgeEffectTest {
 
     /** 58 men with number 1, one with number 2, and last one with number 301. */
     private static Run sixtyMen(String text, String man58, String man59) {
-        Run x = Run.plain();
-        for (int man = 0; man < 58; man++) {
-            x.man(text);
-        }
-        return x.man(man58).man(man59);
-    }
-
-    private static void refusedJars(Run x, String name, long... a) {
-        for (int jar : new int[] {-1, 2, MIN, MAX}) {
-            a[0] = jar;
-            x.refused(-1, name, a);
-        }
-    }
-
-    private static void refusedParts(Run x, String name, long... a) {
-        for (int part : new int[] {-1, 2, MIN, MAX}) {
-            a[a.length - 1] = part;
-            x.refused(-2, name, a);
-        }
+        return Run.plain().same(58, text).man(man58).man(man59);
     }
 
     private static void refusedYears(Run x, String name) {
@@ -87,8 +69,8 @@ final class EdgeEffectTest {
 
     static void p18_jarsAndPartsThatAreNotAreRefused() {
         Run x = twoMen().fraction(-150, 1, "does", 1, 0);
-        refusedJars(x, "does", 0, 0, 0);
-        refusedParts(x, "does", 0, 0, 0);
+        x.refusedJars("does", 0, 0, 0);
+        x.refusedParts("does", 0, 0, 0);
     }
 
     static void p18_refusalsAreToldInTheirOrder() {
@@ -141,8 +123,8 @@ final class EdgeEffectTest {
 
     static void p19_jarsAndPartsThatAreNotAreRefused() {
         Run x = twoMen().fraction(1, 1, "share", 1);
-        refusedJars(x, "share", 0, 0);
-        refusedParts(x, "share", 0, 0);
+        x.refusedJars("share", 0, 0);
+        x.refusedParts("share", 0, 0);
     }
 
     static void p19_refusalsAreToldInTheirOrder() {
@@ -196,8 +178,8 @@ final class EdgeEffectTest {
 
     static void p20_jarsAndPartsThatAreNotAreRefused() {
         Run x = twoMen().fraction(-150, 1, "serving", 1, 0);
-        refusedJars(x, "serving", 0, 0, 0);
-        refusedParts(x, "serving", 0, 0, 0);
+        x.refusedJars("serving", 0, 0, 0);
+        x.refusedParts("serving", 0, 0, 0);
     }
 
     static void p20_refusalsAreToldInTheirOrder() {
@@ -251,8 +233,8 @@ final class EdgeEffectTest {
 
     static void p21_jarsAndPartsThatAreNotAreRefused() {
         Run x = twoMen().fraction(-150, 1, "truly", 1, 0);
-        refusedJars(x, "truly", 0, 0, 0);
-        refusedParts(x, "truly", 0, 0, 0);
+        x.refusedJars("truly", 0, 0, 0);
+        x.refusedParts("truly", 0, 0, 0);
     }
 
     static void p21_refusalsAreToldInTheirOrder() {
@@ -308,7 +290,7 @@ final class EdgeEffectTest {
 
     static void p22_jarsThatAreNotAreRefused() {
         Run x = twoMen().due(20, "faded", 1, 0);
-        refusedJars(x, "faded", 0, 0);
+        x.refusedJars("faded", 0, 0);
     }
 
     static void p22_refusalsAreToldInTheirOrder() {

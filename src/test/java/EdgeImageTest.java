@@ -8,11 +8,7 @@ final class EdgeImageTest {
     }
 
     private static Run full() {
-        Run x = Run.plain();
-        for (int man = 0; man < 60; man++) {
-            x.man("s0,9");
-        }
-        return x;
+        return Run.plain().same(60, "s0,9");
     }
 
     // "THE IMAGE is taken: how many men."
@@ -85,18 +81,13 @@ final class EdgeImageTest {
 
     static void p29_from60MenBackToNobody() {
         Run x = Run.plain().due(0, "image");
-        for (int man = 0; man < 60; man++) {
-            x.man("s0,9");
-        }
+        x.same(60, "s0,9");
         x.feed("c5,55").refused(-6, "man").due(0, "on").due(0, "count", 0).refused(-1, "manOf", 0, 0)
                 .due(0, "shown").due(0, "man").due(4, "manOf", 0, 0).due(5, "manOf", 0, 1);
     }
 
     static void p29_from59MenAgainTo60() {
-        Run x = Run.plain();
-        for (int man = 0; man < 59; man++) {
-            x.man("s0,9");
-        }
+        Run x = Run.plain().same(59, "s0,9");
         x.due(59, "image").man("a1,8").feed("c5,55").refused(-6, "man").due(59, "on").due(59, "man")
                 .due(4, "manOf", 59, 0).due(9, "manOf", 58, 2).feed("n1,1").refused(-6, "man");
     }

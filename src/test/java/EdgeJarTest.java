@@ -2,7 +2,6 @@
 final class EdgeJarTest {
     private static final int MIN = Integer.MIN_VALUE;
     private static final int MAX = Integer.MAX_VALUE;
-    private static final int[] MONTH_STARTS = {0, 31, 60, 91, 121, 152, 182, 213, 244, 274, 305, 335, 366};
 
     public static void main(String[] args) throws Exception {
         Cases.run(EdgeJarTest.class);
@@ -18,13 +17,6 @@ final class EdgeJarTest {
             x.due(days[i], "dayOf", 0, 1 + i).due(days[4 + i], "dayOf", 0, 363 + i);
         }
         return x;
-    }
-
-    private static void notAJar(Run x, String name, long... a) {
-        for (int jar : new int[] {-1, 2, MIN, MAX}) {
-            a[0] = jar;
-            x.refused(-1, name, a);
-        }
     }
 
     // "GlassJar(): No men."
@@ -89,7 +81,7 @@ final class EdgeJarTest {
     // "JARS 0, 1"
     static void p04_jars0And1AreMadeAndOthersRefused() {
         Run x = new Run().due(1, "jar", 0, 5, 0, 0, 1).due(1, "jar", 1, 5, 0, 0, 1);
-        notAJar(x, "jar", 0, 5, 0, 0, 1);
+        x.refusedJars("jar", 0, 5, 0, 0, 1);
     }
 
     static void p04_theOtherJarStays() {
@@ -263,8 +255,8 @@ final class EdgeJarTest {
 
     static void p05_jars0And1ArePouredAndOthersRefused() {
         Run x = new Run().due(1, "pour", 0, 0).due(1, "pour", 1, 0);
-        notAJar(x, "pour", 0, 1);
-        notAJar(x, "pour", 0, 0);
+        x.refusedJars("pour", 0, 1);
+        x.refusedJars("pour", 0, 0);
     }
 
     static void p05_theOtherJarStays() {
@@ -293,7 +285,7 @@ final class EdgeJarTest {
     }
 
     static void p06_jarsBesides0And1AreRefused() {
-        notAJar(new Run(), "number", 0, 0);
+        new Run().refusedJars("number", 0, 0);
     }
 
     static void p06_aJarAndADayThatAreNotAreOneRefusal() {
@@ -326,7 +318,7 @@ final class EdgeJarTest {
     }
 
     static void p07_jarsBesides0And1AreRefused() {
-        notAJar(new Run(), "dayOf", 0, 1);
+        new Run().refusedJars("dayOf", 0, 1);
     }
 
     static void p07_noJarIsToldBeforeTheNumber() {
@@ -348,7 +340,7 @@ final class EdgeJarTest {
     static void p08_monthsHoldTheirFirstAndLastDay() {
         Run x = Run.plain();
         for (int month = 0; month < 12; month++) {
-            int twice = MONTH_STARTS[month] + 1 + MONTH_STARTS[month + 1];
+            int twice = Due.MONTH_STARTS[month] + 1 + Due.MONTH_STARTS[month + 1];
             boolean even = twice % 2 == 0;
             x.fraction(even ? twice / 2 : twice, even ? 1 : 2, "mean", 0, month);
         }
@@ -361,7 +353,7 @@ final class EdgeJarTest {
     }
 
     static void p08_jarsBesides0And1AreRefused() {
-        notAJar(new Run(), "mean", 0, 0, 0);
+        new Run().refusedJars("mean", 0, 0, 0);
     }
 
     static void p08_parts0And1AreToldAndOthersNot() {
@@ -391,7 +383,7 @@ final class EdgeJarTest {
 
     static void p09_jarsBesides0And1AreRefused() {
         Run x = new Run().due(16307486, "lean", 0).due(16307486, "lean", 1);
-        notAJar(x, "lean", 0);
+        x.refusedJars("lean", 0);
     }
 
     // "WORST: the MONTH whose MEAN is farthest from 367 by 2, of several the least."
@@ -417,7 +409,7 @@ final class EdgeJarTest {
 
     static void p10_jarsBesides0And1AreRefused() {
         Run x = new Run().due(0, "worst", 0).due(0, "worst", 1);
-        notAJar(x, "worst", 0);
+        x.refusedJars("worst", 0);
     }
 
     // "TURNED: pairs of DAYS of which the later one has the lesser NUMBER."
@@ -431,6 +423,6 @@ final class EdgeJarTest {
 
     static void p11_jarsBesides0And1AreRefused() {
         Run x = new Run().due(1109, "turned", 0).due(1109, "turned", 1);
-        notAJar(x, "turned", 0);
+        x.refusedJars("turned", 0);
     }
 }

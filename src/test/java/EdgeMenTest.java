@@ -18,11 +18,7 @@ final class EdgeMenTest {
     }
 
     private static Run full() {
-        Run x = new Run();
-        for (int man = 0; man < 60; man++) {
-            x.man("s0,9");
-        }
-        return x;
+        return new Run().same(60, "s0,9");
     }
 
     // "n (1 .. 8) bytes come, the lowest first: how many THE TAPE has. -4; -6 (n; above 14)."
@@ -264,10 +260,7 @@ final class EdgeMenTest {
     }
 
     static void p03_theTapeThatStayedBecomesAManWhereThereIsRoom() {
-        Run x = new Run();
-        for (int man = 0; man < 59; man++) {
-            x.man("s0,9");
-        }
+        Run x = new Run().same(59, "s0,9");
         x.due(59, "image").man("s0,9").feed("n7,77").refused(-6, "man").due(59, "on").due(5, "count", 3)
                 .due(59, "man").due(2, "manOf", 59, 0).due(7, "manOf", 59, 1).due(77, "manOf", 59, 2)
                 .due(0, "count", 3);
@@ -282,10 +275,7 @@ final class EdgeMenTest {
     }
 
     static void p03_with59MenAFaultLeavesRoom() {
-        Run x = new Run();
-        for (int man = 0; man < 59; man++) {
-            x.man("s0,9");
-        }
+        Run x = new Run().same(59, "s0,9");
         x.fault("s0,", 3).due(59, "count", 0).man("s0,9").due(60, "count", 0);
     }
 

@@ -9,25 +9,13 @@ final class EdgeServiceTest {
         Cases.run(EdgeServiceTest.class);
     }
 
-    private static Run refusedJars(Run x, String name, long... a) {
-        for (int jar : new int[] {-1, 2, MIN, MAX}) {
-            a[0] = jar;
-            x.refused(-1, name, a);
-        }
-        return x;
-    }
-
     /** One man of each kind with number 2 (birthday 1), then one with number 1 whose kind is LUCKY. */
     private static Run kinds() {
         return Run.plain().men("s1,1000", "a1,1000", "n1,1000", "f1,1000", "c1,1000", "l1,1000", "l0,1000");
     }
 
     private static Run sixtyMen() {
-        Run x = Run.plain();
-        for (int man = 0; man < 59; man++) {
-            x.man("n0,0");
-        }
-        return x.man("a1,160");
+        return Run.plain().same(59, "n0,0").man("a1,160");
     }
 
     private static void wages(Run x, int year, int... due) {
@@ -132,7 +120,7 @@ final class EdgeServiceTest {
     }
 
     static void p15_jarsAndMenWhoAreNotAreRefused() {
-        Run x = refusedJars(Run.plain().man("s0,1"), "called", 0, 0);
+        Run x = Run.plain().man("s0,1").refusedJars("called", 0, 0);
         x.due(1, "called", 0, 0).due(1, "called", 1, 0).refused(-1, "called", 0, -1).refused(-1, "called", 0, 1);
         x.refused(-1, "called", 0, MIN).refused(-1, "called", 1, MAX).refused(-1, "called", 2, 1);
         x.due(9, "count", 11);
@@ -173,7 +161,7 @@ final class EdgeServiceTest {
     }
 
     static void p16_jarsAndMenWhoAreNotAreRefused() {
-        Run x = refusedJars(Run.plain().man("s0,1"), "served", 0, 0);
+        Run x = Run.plain().man("s0,1").refusedJars("served", 0, 0);
         x.due(1, "served", 0, 0).due(1, "served", 1, 0).refused(-1, "served", 0, -1).refused(-1, "served", 0, 1);
         x.refused(-1, "served", 0, MIN).refused(-1, "served", 1, MAX).refused(-1, "served", 2, 1);
         x.due(9, "count", 11);
@@ -187,7 +175,7 @@ final class EdgeServiceTest {
     }
 
     static void p17_jarsAndMenWhoAreNotAreRefused() {
-        Run x = refusedJars(Run.plain().man("n0,5"), "wage", 0, 0, 0);
+        Run x = Run.plain().man("n0,5").refusedJars("wage", 0, 0, 0);
         x.due(5, "wage", 1, 0, 0).refused(-1, "wage", 0, -1, 0).refused(-1, "wage", 0, 1, 0);
         x.refused(-1, "wage", 0, MIN, 0).refused(-1, "wage", 1, MAX, 0);
     }

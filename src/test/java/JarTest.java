@@ -184,9 +184,8 @@ final class JarTest {
     // Promise 8
     private static void means() {
         GlassJar x = Due.plain();
-        int[] starts = {0, 31, 60, 91, 121, 152, 182, 213, 244, 274, 305, 335, 366};
         for (int month = 0; month < 12; month++) {
-            int twice = starts[month] + 1 + starts[month + 1];
+            int twice = Due.MONTH_STARTS[month] + 1 + Due.MONTH_STARTS[month + 1];
             Due.due("mean above of " + month, x.mean(0, month, 0), twice % 2 == 0 ? twice / 2 : twice);
             Due.due("mean below of " + month, x.mean(0, month, 1), twice % 2 == 0 ? 1 : 2);
         }

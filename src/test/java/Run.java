@@ -9,6 +9,7 @@ import java.util.List;
 final class Run {
     private static final int MOST_CALLS = 512;
     private static final int COUNTS = 6;
+    private static final long[] NEITHER_0_NOR_1 = {-1, 2, Integer.MIN_VALUE, Integer.MAX_VALUE};
     private static final List<Run> MADE = new ArrayList<>();
 
     private final GlassJar x = new GlassJar();
@@ -56,6 +57,33 @@ final class Run {
         due(above, name, asked);
         asked[a.length] = 1;
         return due(below, name, asked);
+    }
+
+    /** No such JAR, each time in the first argument's place. */
+    Run refusedJars(String name, long... a) {
+        return refusedEach(-1, 0, name, a);
+    }
+
+    /** No such part, each time in the last argument's place. */
+    Run refusedParts(String name, long... a) {
+        return refusedEach(-2, a.length - 1, name, a);
+    }
+
+    private Run refusedEach(int number, int place, String name, long[] a) {
+        for (long value : NEITHER_0_NOR_1) {
+            long[] asked = a.clone();
+            asked[place] = value;
+            refused(number, name, asked);
+        }
+        return this;
+    }
+
+    /** So many men of one text. */
+    Run same(int many, String text) {
+        for (int i = 0; i < many; i++) {
+            man(text);
+        }
+        return this;
     }
 
     Run noFraction(String name, long... a) {
