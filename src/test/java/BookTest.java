@@ -1,17 +1,10 @@
 /** Promises 23 to 27: groups that are shown or hidden, and what another jar or cut would change. */
 final class BookTest {
-    public static void main(String[] args) {
-        groups();
-        groupRefuses();
-        least();
-        shown();
-        moved();
-        cuts();
-        Due.end("BookTest");
+    public static void main(String[] args) throws Exception {
+        Cases.run(BookTest.class);
     }
 
-    // Promise 23
-    private static void groups() {
+    static void p23_groups() {
         GlassJar x = Due.plain();
         x.cut(31);
         Due.men(x, "n0,100", "s30,201", "n15,100", "n31,7", "n31,7");
@@ -31,10 +24,9 @@ final class BookTest {
         Due.due("group by jar 1 above", x.group(1, 0, 0, 0), 401);
         Due.due("group by jar 1 below", x.group(1, 0, 0, 1), 3);
         Due.refused(x, 0, 0, 0, 0, 0);
-        debtors();
     }
 
-    private static void debtors() {
+    static void p23_debtors() {
         GlassJar x = Due.plain();
         x.law(1, 999);
         Due.men(x, "s365,0", "s335,0", "s365,3", "s350,0");
@@ -43,7 +35,7 @@ final class BookTest {
         Due.due("negative group below", x.group(0, 11, 0, 1), 4);
     }
 
-    private static void groupRefuses() {
+    static void p23_groupRefuses() {
         GlassJar x = new GlassJar();
         Due.due("group(2, 0, 0, 2)", x.group(2, 0, 0, 2), Due.NOBODY);
         Due.due("group(-1, 0, 0, 0)", x.group(-1, 0, 0, 0), Due.NOBODY);
@@ -56,8 +48,7 @@ final class BookTest {
         Due.refused(x, 4, 2, 0, 1, 1);
     }
 
-    // Promise 24
-    private static void least() {
+    static void p24_least() {
         GlassJar x = new GlassJar();
         Due.due("least(1)", x.least(1), 3);
         Due.due("least(60)", x.least(60), 1);
@@ -67,8 +58,7 @@ final class BookTest {
         Due.refused(x, 0, 0, 0, 1, 1);
     }
 
-    // Promise 25
-    private static void shown() {
+    static void p25_shown() {
         for (int month = 0; month < 12; month++) {
             GlassJar x = new GlassJar();
             x.least(2);
@@ -86,8 +76,7 @@ final class BookTest {
         Due.due("shown by 1", x.shown(), 1 | 1 << 3 | 1 << 11);
     }
 
-    // Promise 26
-    private static void moved() {
+    static void p26_moved() {
         GlassJar x = Due.plain();
         Due.due("moved of nobody", x.moved(), 0);
         // By jar 1 turned over the numbers are 366 less the day; the cut is 195.
@@ -101,8 +90,7 @@ final class BookTest {
         Due.due("moved by cut 1", x.moved(), 2);
     }
 
-    // Promise 27
-    private static void cuts() {
+    static void p27_cuts() {
         GlassJar x = Due.plain();
         Due.due("cuts(0, 0) of nobody", x.cuts(0, 0), 0);
         Due.due("cuts(0, 1) of nobody", x.cuts(0, 1), -9);

@@ -3,9 +3,12 @@ import java.lang.reflect.Method;
 import java.util.Map;
 import java.util.TreeMap;
 
-/** Runs the tests of a class: each method named p and its promise's two digits, "_" and what it asks. */
+/**
+ * Runs the tests of a class: each method named p and its promise's two digits, "_" and what it asks; where a test asks
+ * for a rule of LANGUAGE.md, r and the rule's two digits.
+ */
 final class Cases {
-    private static final String NAME = "p(0[1-9]|[12][0-9]|30)_[a-zA-Z0-9]+";
+    private static final String NAME = "(p(0[1-9]|[12][0-9]|30)|r(0[1-9]|1[0-3]))_[a-zA-Z0-9]+";
 
     private Cases() {
     }

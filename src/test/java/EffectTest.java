@@ -1,14 +1,7 @@
 /** Promises 18 to 22: what a low number does, whom it sends, what serving does, when it fades. */
 final class EffectTest {
-    public static void main(String[] args) {
-        does();
-        share();
-        serving();
-        servingByNegativeShare();
-        truly();
-        faded();
-        effectsRefuse();
-        Due.end("EffectTest");
+    public static void main(String[] args) throws Exception {
+        Cases.run(EffectTest.class);
     }
 
     /** Called are 0 to 2 (numbers 1, 2, 3), not called 3 and 4 (numbers 301 and 302). */
@@ -18,8 +11,7 @@ final class EffectTest {
         return x;
     }
 
-    // Promise 18
-    private static void does() {
+    static void p18_does() {
         GlassJar x = fiveMen();
         // Called earn -50, 50, 400; the others 750 and 500: 400 by 3 less 625.
         Due.due("does above", x.does(0, 0, 0), -1475);
@@ -37,18 +29,16 @@ final class EffectTest {
         x.cut(0);
         Due.due("does of nobody", x.does(1, 0, 1), Due.STATE);
         Due.refused(x, 0, 0, 2, 0, 0);
-        doesNothing();
     }
 
-    private static void doesNothing() {
+    static void p18_doesNothing() {
         GlassJar x = Due.plain();
         Due.men(x, "n0,5", "n300,5", "n301,5", "n302,5");
         Due.due("does nothing above", x.does(0, 3, 0), 0);
         Due.due("does nothing below", x.does(0, 3, 1), 1);
     }
 
-    // Promise 19
-    private static void share() {
+    static void p19_share() {
         GlassJar x = fiveMen();
         // Two of three called men served, one of two others.
         Due.due("share above", x.share(0, 0), 1);
@@ -65,8 +55,7 @@ final class EffectTest {
         Due.refused(x, 0, 0, 2, 0, 0);
     }
 
-    // Promise 20
-    private static void serving() {
+    static void p20_serving() {
         GlassJar x = fiveMen();
         // -1475 by 3, by 1 by 6.
         Due.due("serving above", x.serving(0, 0, 0), -2950);
@@ -87,7 +76,7 @@ final class EffectTest {
         Due.due("mixed serving below", mixed.serving(0, 0, 1), 1);
     }
 
-    private static void servingByNegativeShare() {
+    static void p20_servingByNegativeShare() {
         GlassJar x = Due.plain();
         x.law(1, 0);
         Due.men(x, "n0,10", "a300,4", "a301,5", "n302,5");
@@ -107,8 +96,7 @@ final class EffectTest {
         Due.due("odd serving with low below", odd.serving(0, 0, 1), 3);
     }
 
-    // Promise 21
-    private static void truly() {
+    static void p21_truly() {
         GlassJar x = Due.plain();
         Due.due("truly of nobody", x.truly(0, 0, 0), Due.STATE);
         Due.men(x, "a0,1", "n0,1", "f0,1", "c0,1", "l0,1");
@@ -127,10 +115,9 @@ final class EffectTest {
         x.cut(0);
         Due.due("truly needs no cut", x.truly(0, 0, 0), -170);
         Due.refused(x, 0, 0, 2, 0, 0);
-        trulyOfOddLucky();
     }
 
-    private static void trulyOfOddLucky() {
+    static void p21_trulyOfOddLucky() {
         GlassJar x = Due.plain();
         Due.men(x, "l0,1");
         x.pour(1, false);
@@ -140,8 +127,7 @@ final class EffectTest {
         Due.due("truly of a SENT man", x.truly(0, 0, 0), -150);
     }
 
-    // Promise 22
-    private static void faded() {
+    static void p22_faded() {
         GlassJar x = Due.plain();
         Due.due("faded of nobody", x.faded(0, 9999), -9);
         Due.men(x, "s0,100", "s300,100");
@@ -166,10 +152,9 @@ final class EffectTest {
         Due.due("faded(0, -1)", x.faded(0, -1), -4);
         Due.due("faded(0, 10000)", x.faded(0, 10000), -6);
         Due.refused(x, 2, 0, 0, 1, 1);
-        fadedUpwards();
     }
 
-    private static void fadedUpwards() {
+    static void p22_fadedUpwards() {
         GlassJar x = Due.plain();
         Due.men(x, "n0,100", "n1,101", "a300,50");
         // Called earn 201 by 2, the other 50 less what is left of 150: it starts at 200.5.
@@ -179,26 +164,41 @@ final class EffectTest {
         Due.due("faded to 51", x.faded(0, 51), 20);
     }
 
-    private static void effectsRefuse() {
+    static void p18_doesRefuses() {
         GlassJar x = new GlassJar();
         Due.due("does(2, -1, 2)", x.does(2, -1, 2), Due.NOBODY);
         Due.due("does(0, -1, 2)", x.does(0, -1, 2), Due.OTHER);
         Due.due("does(0, -1, 0)", x.does(0, -1, 0), Due.BELOW);
         Due.due("does(0, 41, 0)", x.does(0, 41, 0), Due.ROOM);
         Due.due("does(0, 40, 0)", x.does(0, 40, 0), Due.STATE);
+        Due.refused(x, 1, 1, 1, 1, 1);
+    }
+
+    static void p19_shareRefuses() {
+        GlassJar x = new GlassJar();
         Due.due("share(-1, 2)", x.share(-1, 2), Due.NOBODY);
         Due.due("share(0, -1)", x.share(0, -1), Due.OTHER);
         Due.due("share(0, 1)", x.share(0, 1), Due.STATE);
+        Due.refused(x, 1, 1, 1, 0, 0);
+    }
+
+    static void p20_servingRefuses() {
+        GlassJar x = new GlassJar();
         Due.due("serving(2, 41, 2)", x.serving(2, 41, 2), Due.NOBODY);
         Due.due("serving(0, 41, 2)", x.serving(0, 41, 2), Due.OTHER);
         Due.due("serving(0, -1, 0)", x.serving(0, -1, 0), Due.BELOW);
         Due.due("serving(0, 41, 0)", x.serving(0, 41, 0), Due.ROOM);
         Due.due("serving(0, 40, 0)", x.serving(0, 40, 0), Due.STATE);
+        Due.refused(x, 1, 1, 1, 1, 1);
+    }
+
+    static void p21_trulyRefuses() {
+        GlassJar x = new GlassJar();
         Due.due("truly(2, -1, 2)", x.truly(2, -1, 2), Due.NOBODY);
         Due.due("truly(0, -1, 2)", x.truly(0, -1, 2), Due.OTHER);
         Due.due("truly(0, -1, 0)", x.truly(0, -1, 0), Due.BELOW);
         Due.due("truly(0, 41, 0)", x.truly(0, 41, 0), Due.ROOM);
         Due.due("truly(0, 40, 0)", x.truly(0, 40, 0), Due.STATE);
-        Due.refused(x, 4, 4, 4, 3, 3);
+        Due.refused(x, 1, 1, 1, 1, 1);
     }
 }

@@ -1,15 +1,10 @@
 /** Promises 28 to 30: the image, on from it, and what is counted. */
 final class ImageTest {
-    public static void main(String[] args) {
-        noImage();
-        allIsAsThen();
-        tapeAndRefusalsStay();
-        imageIsTakenAgain();
-        counts();
-        Due.end("ImageTest");
+    public static void main(String[] args) throws Exception {
+        Cases.run(ImageTest.class);
     }
 
-    private static void noImage() {
+    static void p29_noImage() {
         GlassJar x = new GlassJar();
         Due.men(x, "s1,1");
         Due.due("on() without an image", x.on(), -3);
@@ -18,8 +13,7 @@ final class ImageTest {
         Due.due("the man stays", x.count(0), 1);
     }
 
-    // Promises 28 and 29
-    private static void allIsAsThen() {
+    static void p29_allIsAsThen() {
         GlassJar x = new GlassJar();
         x.jar(0, 8, 30, 5, 4);
         x.jar(1, 9, 60, 9, 2);
@@ -90,7 +84,7 @@ final class ImageTest {
         return numbers;
     }
 
-    private static void tapeAndRefusalsStay() {
+    static void p29_tapeAndRefusalsStay() {
         GlassJar x = new GlassJar();
         x.cut(-1);
         x.feed(3, 0x2C3173);
@@ -106,7 +100,18 @@ final class ImageTest {
         Due.due("the tape stays empty", x.count(3), 0);
     }
 
-    private static void imageIsTakenAgain() {
+    static void p28_imageTellsHowManyMen() {
+        GlassJar x = new GlassJar();
+        Due.due("image() of nobody", x.image(), 0);
+        Due.men(x, "s1,1", "n2,2");
+        Due.man(x, "x3,3");
+        Due.due("image() of two men", x.image(), 2);
+        Due.due("the men stay", x.count(0), 2);
+        Due.due("manOf(1, 2)", x.manOf(1, 2), 2);
+        Due.refused(x, 0, 0, 0, 0, 0);
+    }
+
+    static void p28_imageIsTakenAgain() {
         GlassJar x = new GlassJar();
         Due.men(x, "s1,1");
         Due.due("image()", x.image(), 1);
@@ -120,8 +125,7 @@ final class ImageTest {
         Due.due("the image itself stays", x.cut(30), 10);
     }
 
-    // Promise 30
-    private static void counts() {
+    static void p30_counts() {
         GlassJar x = Due.plain();
         x.pour(1, false);
         x.cut(100);

@@ -1,22 +1,10 @@
 /** Promises 1 and 4 to 11: a new object, jars and the numbers that come of them. */
 final class JarTest {
-    public static void main(String[] args) {
-        newObject();
-        jarIsMade();
-        jarIsDrawnDeep();
-        jarRefuses();
-        pours();
-        numbers();
-        daysOfNumbers();
-        means();
-        leans();
-        worst();
-        turned();
-        Due.end("JarTest");
+    public static void main(String[] args) throws Exception {
+        Cases.run(JarTest.class);
     }
 
-    // Promise 1
-    private static void newObject() {
+    static void p01_newObject() {
         GlassJar x = new GlassJar();
         Due.due("new count(0)", x.count(0), 0);
         Due.due("new count(1)", x.count(1), 0);
@@ -41,8 +29,7 @@ final class JarTest {
         Due.due("new number(0, 365)", x.number(0, 365), 358);
     }
 
-    // Promise 4
-    private static void jarIsMade() {
+    static void p04_jarIsMade() {
         GlassJar x = new GlassJar();
         Due.due("jar(0, 5, 0, 0, 1)", x.jar(0, 5, 0, 0, 1), 1);
         for (int day = 0; day < 366; day++) {
@@ -86,7 +73,7 @@ final class JarTest {
         return (int) (withoutSign / 256 % of);
     }
 
-    private static void jarIsDrawnDeep() {
+    static void p04_jarIsDrawnDeep() {
         drawnBy(0, 9, 3);
         drawnBy(1, 9, 366);
     }
@@ -109,7 +96,7 @@ final class JarTest {
         }
     }
 
-    private static void jarRefuses() {
+    static void p04_jarRefuses() {
         GlassJar x = new GlassJar();
         Due.due("jar(-1, ..)", x.jar(-1, 0, -1, 0, 1), -1);
         Due.due("jar(2, ..)", x.jar(2, 0, 0, 0, 367), -1);
@@ -124,8 +111,7 @@ final class JarTest {
         Due.due("a refused jar stays", x.number(0, 0), 4);
     }
 
-    // Promise 5
-    private static void pours() {
+    static void p05_pours() {
         GlassJar x = Due.plain();
         Due.due("pour(0, true)", x.pour(0, true), 0);
         Due.due("pour(0, false)", x.pour(0, false), 1);
@@ -138,10 +124,9 @@ final class JarTest {
         Due.due("pour(2, true)", x.pour(2, true), -1);
         Due.due("pour(-1, false)", x.pour(-1, false), -1);
         Due.refused(x, 2, 0, 0, 0, 0);
-        turnedOverAfterShaking();
     }
 
-    private static void turnedOverAfterShaking() {
+    static void p05_turnedOverAfterShaking() {
         GlassJar x = new GlassJar();
         x.jar(0, 3, 500, 40, 1);
         GlassJar over = new GlassJar();
@@ -152,8 +137,7 @@ final class JarTest {
         }
     }
 
-    // Promise 6
-    private static void numbers() {
+    static void p06_numbers() {
         GlassJar x = new GlassJar();
         Due.due("number(1, 100)", x.number(1, 100), 101);
         Due.due("number(0, -1)", x.number(0, -1), -1);
@@ -163,8 +147,7 @@ final class JarTest {
         Due.refused(x, 4, 0, 0, 0, 0);
     }
 
-    // Promise 7
-    private static void daysOfNumbers() {
+    static void p07_daysOfNumbers() {
         GlassJar x = new GlassJar();
         x.jar(1, 12, 700, 200, 30);
         GlassJar same = new GlassJar();
@@ -181,8 +164,7 @@ final class JarTest {
         Due.refused(x, 2, 0, 0, 1, 1);
     }
 
-    // Promise 8
-    private static void means() {
+    static void p08_means() {
         GlassJar x = Due.plain();
         for (int month = 0; month < 12; month++) {
             int twice = Due.MONTH_STARTS[month] + 1 + Due.MONTH_STARTS[month + 1];
@@ -201,8 +183,7 @@ final class JarTest {
         Due.refused(x, 4, 2, 0, 0, 0);
     }
 
-    // Promise 9
-    private static void leans() {
+    static void p09_leans() {
         GlassJar x = Due.plain();
         Due.due("lean(0)", x.lean(0), 16342510);
         x.pour(0, false);
@@ -213,20 +194,18 @@ final class JarTest {
         Due.refused(x, 2, 0, 0, 0, 0);
     }
 
-    // Promise 10
-    private static void worst() {
+    static void p10_worst() {
         GlassJar x = Due.plain();
         // January's mean 16 and December's 351 lie equally far from 183.5: the least is told.
         Due.due("worst of equals", x.worst(0), 0);
         x.pour(0, false);
         Due.due("worst of equals, not poured", x.worst(0), 0);
-        everyMonthIsWorstOnce();
         Due.due("worst(2)", x.worst(2), -1);
         Due.due("worst(-1)", x.worst(-1), -1);
         Due.refused(x, 2, 0, 0, 0, 0);
     }
 
-    private static void everyMonthIsWorstOnce() {
+    static void p10_everyMonthIsWorstOnce() {
         int months = 0;
         for (int seed = 1; seed <= 100; seed++) {
             GlassJar x = new GlassJar();
@@ -251,8 +230,7 @@ final class JarTest {
         return worst;
     }
 
-    // Promise 11
-    private static void turned() {
+    static void p11_turned() {
         GlassJar x = Due.plain();
         Due.due("turned(0)", x.turned(0), 0);
         x.pour(0, false);

@@ -1,17 +1,10 @@
 /** Promises 2, 3 and 12: the tape, its faults, and the men that are read from it. */
 final class MenTest {
-    public static void main(String[] args) {
-        feeds();
-        kinds();
-        faults();
-        bytesAboveLetters();
-        noRoom();
-        tellsMen();
-        Due.end("MenTest");
+    public static void main(String[] args) throws Exception {
+        Cases.run(MenTest.class);
     }
 
-    // Promise 2
-    private static void feeds() {
+    static void p02_feeds() {
         GlassJar x = new GlassJar();
         Due.due("feed(8)", x.feed(8, 0x3030302C30306173L), 8);
         Due.due("feed(0)", x.feed(0, 0), -4);
@@ -24,10 +17,9 @@ final class MenTest {
         Due.due("feed(MIN)", x.feed(Integer.MIN_VALUE, 0), -4);
         Due.due("count(3)", x.count(3), 14);
         Due.refused(x, 0, 0, 0, 3, 4);
-        lowestFirst();
     }
 
-    private static void lowestFirst() {
+    static void p02_lowestFirst() {
         GlassJar x = new GlassJar();
         // s12,34 by its lowest bytes; the bytes above the n-th do not come.
         Due.due("feed(6)", x.feed(6, 0x783734332C323173L), 6);
@@ -41,8 +33,7 @@ final class MenTest {
         Due.due("wage", x.manOf(1, 2), 6789);
     }
 
-    // Promise 3
-    private static void kinds() {
+    static void p03_kinds() {
         GlassJar x = new GlassJar();
         String letters = "sanfcl";
         for (int kind = 0; kind < 6; kind++) {
@@ -64,7 +55,7 @@ final class MenTest {
         Due.due("wage of " + text, x.manOf(0, 2), wage);
     }
 
-    private static void faults() {
+    static void p03_faults() {
         fault("", 0);
         fault("x1,1", 0);
         fault("S1,1", 0);
@@ -107,7 +98,7 @@ final class MenTest {
         Due.due("man() after '" + text + "'", Due.man(x, "n5,6"), 0);
     }
 
-    private static void bytesAboveLetters() {
+    static void p03_bytesAboveLetters() {
         GlassJar x = new GlassJar();
         x.feed(8, -1);
         Due.due("man() of 255s", x.man(), -20);
@@ -117,7 +108,7 @@ final class MenTest {
         Due.due("man() with a zero byte behind", x.man(), -24);
     }
 
-    private static void noRoom() {
+    static void p03_noRoom() {
         GlassJar x = new GlassJar();
         for (int man = 0; man < 60; man++) {
             x.feed(5, 0x39_2C_30_30_73L);
@@ -135,8 +126,7 @@ final class MenTest {
         Due.refused(x, 1, 0, 0, 0, 2);
     }
 
-    // Promise 12
-    private static void tellsMen() {
+    static void p12_tellsMen() {
         GlassJar x = new GlassJar();
         Due.men(x, "l31,500", "c0,7");
         Due.due("manOf(0, 0)", x.manOf(0, 0), 5);

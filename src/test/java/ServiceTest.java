@@ -1,18 +1,10 @@
 /** Promises 13 to 17: cut, laws, who is called, who served, wages. */
 final class ServiceTest {
-    public static void main(String[] args) {
-        cuts();
-        laws();
-        called();
-        served();
-        wages();
-        wagesFade();
-        wageRefuses();
-        Due.end("ServiceTest");
+    public static void main(String[] args) throws Exception {
+        Cases.run(ServiceTest.class);
     }
 
-    // Promise 13
-    private static void cuts() {
+    static void p13_cuts() {
         GlassJar x = Due.plain();
         Due.due("cut(0)", x.cut(0), 195);
         Due.due("cut(366)", x.cut(366), 0);
@@ -27,8 +19,7 @@ final class ServiceTest {
         Due.due("called by a new cut", x.called(0, 1), 1);
     }
 
-    // Promise 14
-    private static void laws() {
+    static void p14_laws() {
         GlassJar x = new GlassJar();
         int[] first = {10, 150, 5, 80, 0};
         int[] greatest = {99, 999, 100, 999, 99};
@@ -44,8 +35,7 @@ final class ServiceTest {
         Due.refused(x, 2, 0, 0, 5, 5);
     }
 
-    // Promise 15
-    private static void called() {
+    static void p15_called() {
         GlassJar x = Due.plain();
         x.pour(1, false);
         Due.men(x, "s194,1", "n195,1", "s171,1", "f172,1");
@@ -67,8 +57,7 @@ final class ServiceTest {
         Due.refused(x, 4, 0, 0, 0, 0);
     }
 
-    // Promise 16
-    private static void served() {
+    static void p16_served() {
         GlassJar x = Due.plain();
         x.cut(100);
         // Birthday 49 has number 50, 50 has 51, 299 has 300.
@@ -91,8 +80,7 @@ final class ServiceTest {
         Due.refused(x, 4, 0, 0, 0, 0);
     }
 
-    // Promise 17
-    private static void wages() {
+    static void p17_wages() {
         GlassJar x = Due.plain();
         x.cut(100);
         x.law(1, 151);
@@ -112,7 +100,7 @@ final class ServiceTest {
         Due.due("wage grown by 99", x.wage(1, 0, 40), 1000 + 99 * 40);
     }
 
-    private static void wagesFade() {
+    static void p17_wagesFade() {
         GlassJar x = Due.plain();
         Due.men(x, "s0,0", "c0,0");
         x.law(0, 0);
@@ -132,7 +120,7 @@ final class ServiceTest {
         Due.due("left if all fades", x.wage(0, 0, 1), 0);
     }
 
-    private static void wageRefuses() {
+    static void p17_wageRefuses() {
         GlassJar x = Due.plain();
         Due.men(x, "s0,5");
         Due.due("wage(2, 0, -1)", x.wage(2, 0, -1), Due.NOBODY);
